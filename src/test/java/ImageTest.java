@@ -1,0 +1,188 @@
+/** Promise 35: the image, from which all goes on. */
+public final class ImageTest {
+    private static final Due due = new Due();
+
+    public static void main(String[] args) {
+        none();
+        everythingIsBack();
+        moreThanOnce();
+        tapeAndFaultStay();
+        planIsBack();
+        goesOn();
+        imageOfBefore();
+        due.end();
+    }
+
+    private static void none() {
+        RollingNets x = new RollingNets();
+        due.is("none", x.image(false), false);
+        x.price(0, 50);
+        due.is("none", x.image(false), false);
+        due.is("price stays", x.issue(0, 0), 50);
+        due.is("taken", x.image(true), true);
+        due.is("gone back", x.image(false), true);
+    }
+
+    /** All that can be asked, as one row of numbers. */
+    private static long sum(RollingNets x) {
+        long sum = 0;
+        for (int what = 0; what < 20; what++) {
+            sum = sum * 31 + x.look(what);
+        }
+        for (int member = 0; member < 12; member++) {
+            sum = sum * 31 + x.cash(member);
+            sum = sum * 31 + x.margin(member, 0);
+            sum = sum * 31 + x.margin(member, 1);
+            for (int issue = 0; issue < 6; issue++) {
+                for (int what = 0; what < 10; what++) {
+                    sum = sum * 31 + x.at(member, issue, what);
+                }
+                for (int i = 0; i < 20; i++) {
+                    sum = sum * 31 + x.lot(member, issue, i, 0);
+                    sum = sum * 31 + x.lot(member, issue, i, 1);
+                }
+            }
+        }
+        for (int issue = 0; issue < 6; issue++) {
+            for (int what = 0; what < 9; what++) {
+                sum = sum * 31 + x.issue(issue, what);
+            }
+            for (int i = 0; i < 20; i++) {
+                sum = sum * 31 + x.queue(issue, i, 0);
+            }
+        }
+        for (int i = 0; i < 40; i++) {
+            for (int what = 0; what < 22; what++) {
+                sum = sum * 31 + x.deal(i, what);
+                sum = sum * 31 + x.notice(i, what);
+                sum = sum * 31 + x.book(i, what);
+            }
+        }
+        return sum;
+    }
+
+    private static void fill(RollingNets x, int by) {
+        for (int what = 1; what < 7; what++) {
+            x.set(what, 1 + by % 2);
+        }
+        x.set(1, 0);
+        for (int k = 0; k < 5; k++) {
+            x.trade(k, (k + 1) % 6, k % 3, 10 + by + k, 90 + k);
+            x.apart(k, (k + 2) % 6, k % 4, 5 + by, 90 + k);
+            x.tell(k, k % 3, 0, 3 + by);
+            x.tell(k, 2, 1, by);
+            x.tell(k, k % 4, 2, 4 + by);
+            x.tell(k, 0, 3, (k + by) % 10);
+            x.collateral(k, 1000 * by);
+            x.suspend(k, (k + by) % 4 == 0);
+        }
+        x.price(by % 6, 100 + by);
+        x.night(3);
+        x.give(0, 0, 1);
+        x.give(1, 1, 1);
+        x.call(1);
+        x.dividend(by % 6, by % 9);
+        x.night(1);
+        x.dividend(2, 1);
+    }
+
+    private static void everythingIsBack() {
+        RollingNets x = new RollingNets();
+        fill(x, 1);
+        long before = sum(x);
+        due.is("taken", x.image(true), true);
+        due.is("as it is", sum(x), before);
+        long cash = x.tomorrow(1, 0, 9);
+        fill(x, 4);
+        x.split(0, 2);
+        due.is("else now", sum(x) == before, false);
+        due.is("gone back", x.image(false), true);
+        due.is("as it was", sum(x), before);
+        due.is("and goes on likewise", x.tomorrow(1, 0, 9), cash);
+    }
+
+    private static void moreThanOnce() {
+        RollingNets x = new RollingNets();
+        fill(x, 2);
+        x.image(true);
+        long first = sum(x);
+        for (int k = 0; k < 3; k++) {
+            fill(x, 3 + k);
+            due.is("gone back", x.image(false), true);
+            due.is("as it was", sum(x), first);
+        }
+        fill(x, 7);
+        long second = sum(x);
+        due.is("taken anew", x.image(true), true);
+        fill(x, 8);
+        x.image(false);
+        due.is("the latest taken", sum(x), second);
+    }
+
+    private static void tapeAndFaultStay() {
+        RollingNets x = new RollingNets();
+        PlanTest.tape(x, "night 1;");
+        x.image(true);
+        PlanTest.tape(x, "night 1;night 2;call 200;night 1;");
+        due.is("gone back", x.image(false), true);
+        due.is("the tape is as it is now", x.end(33), true);
+        due.is("the tape is as it is now", x.end(34), false);
+        due.is("plan", x.plan(), -1);
+        x.image(false);
+        due.is("the fault, too", x.fault(0), 2);
+        due.is("its place, too", x.fault(1), 21);
+        due.is("the tape is empty", x.end(1), false);
+    }
+
+    private static void planIsBack() {
+        RollingNets x = new RollingNets();
+        PlanTest.tape(x, "price 0 11;price 0 12;price 0 13;");
+        x.plan();
+        x.run(1);
+        x.image(true);
+        x.run(24);
+        PlanTest.tape(x, "night 1;");
+        x.plan();
+        x.run(1);
+        due.is("gone back", x.image(false), true);
+        due.is("lines", x.look(13), 3);
+        due.is("lines run", x.look(14), 1);
+        due.is("day", x.look(6), 0);
+        due.is("price", x.issue(0, 0), 11);
+        due.is("run", x.run(1), 1);
+        due.is("price", x.issue(0, 0), 12);
+    }
+
+    /** What comes after it is the same as if the rest had never been. */
+    private static void goesOn() {
+        RollingNets x = new RollingNets();
+        RollingNets y = new RollingNets();
+        fill(x, 1);
+        fill(y, 1);
+        x.image(true);
+        fill(x, 6);
+        x.night(5);
+        x.image(false);
+        fill(x, 3);
+        fill(y, 3);
+        due.is("the same", sum(x), sum(y));
+        due.is("the same tomorrow", x.tomorrow(3, 2, 9), y.tomorrow(3, 2, 9));
+    }
+
+    /** Taken before there was a trade: members can be told again. */
+    private static void imageOfBefore() {
+        RollingNets x = new RollingNets();
+        x.image(true);
+        x.trade(0, 1, 0, 1, 1);
+        x.set(1, 3);
+        x.night(4);
+        due.is("set(0, 4)", x.set(0, 4), false);
+        x.image(false);
+        due.is("set(0, 4)", x.set(0, 4), true);
+        due.is("day", x.look(6), 0);
+        due.is("lag", x.look(1), 2);
+        due.is("trades", x.look(7), 0);
+        due.is("deal", x.deal(0, 0), -1);
+        due.is("trade", x.trade(0, 1, 0, 1, 1), 0);
+    }
+}
