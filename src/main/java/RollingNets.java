@@ -502,7 +502,7 @@ public final class RollingNets {
             case 14:
                 return now.planDone;
             case 15:
-                return Figures.openNet(now);
+                return Figures.overDeals(now, NONE, 0, OPEN);
             case 16:
                 return Figures.lacking(now);
             case 17:
@@ -769,8 +769,10 @@ public final class RollingNets {
         }
 
         void pay(int from, int to, long amount) {
-            cash[from] -= amount;
-            cash[to] += amount;
+            if (hasMember(from) && hasMember(to)) {
+                cash[from] -= amount;
+                cash[to] += amount;
+            }
         }
 
         void write(int what, int issue, int from, int to, int shares) {
@@ -802,10 +804,14 @@ public final class RollingNets {
             return trade;
         }
 
-        /** Whether a TRADE is of an ISSUE, of a sort (APART 1, else 0), OPEN and DUE on this DAY or ahead. */
+        /**
+         * Whether a TRADE is of an ISSUE, of a sort (APART 1, else 0), OPEN and DUE on this DAY or ahead;
+         * its BUYER and its SELLER are there, then.
+         */
         boolean isDue(int trade, int issue, int apart) {
-            return deals.get(ISSUE, trade) == issue && deals.get(APART, trade) == apart
-                    && deals.get(OPEN, trade) > 0 && deals.get(DUE, trade) <= day;
+            boolean isOpen = deals.get(OPEN, trade) > 0 && deals.get(DUE, trade) <= day;
+            return isOpen && deals.get(ISSUE, trade) == issue && deals.get(APART, trade) == apart
+                    && hasMember(deals.get(BUYER, trade)) && hasMember(deals.get(SELLER, trade));
         }
 
         boolean isOpenNotice(int i, int issue) {
@@ -974,11 +980,10 @@ public final class RollingNets {
         private static int deliverAll(House house, int issue) {
             Market market = house.markets[issue];
             int pool = 0;
-            int asked = 0;
             for (int day = 0; day < market.endDay; day++) {
                 for (int member = 0; member < house.members(); member++) {
-                    if (market.lots[member][day] < 0 && (asked >> member & 1) == 0) {
-                        asked |= 1 << member;
+                    // Whoever has delivered has nothing FREE any more when a later LOT of it is met.
+                    if (market.lots[member][day] < 0) {
                         pool += deliver(house, issue, member);
                     }
                 }
@@ -1067,10 +1072,13 @@ public final class RollingNets {
             Table deals = house.deals;
             Market market = house.markets[issue];
             for (int trade = 0; trade < deals.size(); trade++) {
+                if (!house.isDue(trade, issue, 1)) {
+                    continue;
+                }
                 int buyer = deals.get(BUYER, trade);
                 int seller = deals.get(SELLER, trade);
                 int open = deals.get(OPEN, trade);
-                if (house.isDue(trade, issue, 1) && house.freeOf(issue, seller) >= open) {
+                if (house.freeOf(issue, seller) >= open) {
                     market.stock[seller] -= open;
                     market.stock[buyer] += open;
                     house.pay(buyer, seller, (long) open * deals.get(PRICE, trade));
@@ -1242,20 +1250,19 @@ public final class RollingNets {
             Table notices = house.notices;
             for (int i = 0; i < notices.size(); i++) {
                 if (house.isOpenNotice(i, issue) && notices.get(GIVEN_DUE, i) <= house.day) {
-                    if (notices.get(GIVEN_TRADE, i) == NONE) {
-                        closeNet(house, i);
-                    } else {
-                        closeApart(house, i);
+                    int giver = notices.get(GIVER, i);
+                    if (house.hasMember(giver) && notices.get(GIVEN_TRADE, i) == NONE) {
+                        closeNet(house, issue, giver, i);
+                    } else if (house.hasMember(giver)) {
+                        closeApart(house, issue, giver, i);
                     }
                     notices.put(GIVEN_OPEN, i, 0);
                 }
             }
         }
 
-        private static void closeNet(House house, int i) {
+        private static void closeNet(House house, int issue, int giver, int i) {
             Table notices = house.notices;
-            int issue = notices.get(GIVEN_ISSUE, i);
-            int giver = notices.get(GIVER, i);
             Market market = house.markets[issue];
             for (int member = 0; member < house.members(); member++) {
                 int owed = Math.min(notices.get(ASSIGNED + member, i), market.shortOf(member));
@@ -1274,10 +1281,8 @@ public final class RollingNets {
             }
         }
 
-        private static void closeApart(House house, int i) {
+        private static void closeApart(House house, int issue, int giver, int i) {
             Table deals = house.deals;
-            int issue = house.notices.get(GIVEN_ISSUE, i);
-            int giver = house.notices.get(GIVER, i);
             int trade = house.notices.get(GIVEN_TRADE, i);
             int shares = house.notices.get(GIVEN_SHARES, i);
             if (deals.get(OPEN, trade) < shares) {
@@ -1285,6 +1290,9 @@ public final class RollingNets {
             }
             layChain(house, trade, shares);
             int last = lastOfChain(house);
+            if (!house.hasMember(last)) {
+                return;
+            }
             long paid = (long) shares * house.buyPrice(issue);
             house.cash[last] -= paid;
             house.outside += paid;
@@ -1346,44 +1354,31 @@ public final class RollingNets {
                 case 1:
                     return market.marked;
                 case 2:
-                    return allLong(house, market);
                 case 3:
-                    return allShort(house, market);
                 case 4:
-                    return allStock(house, market);
+                    return overMembers(house, market, what);
                 case 5:
                     return eldestDay(house, market);
                 case 6:
-                    return openApart(house, issue);
+                    return overDeals(house, issue, 1, OPEN);
                 case 7:
                     return countDeals(house, issue);
                 case 8:
-                    return allShares(house, issue);
+                    return overDeals(house, issue, NONE, SHARES);
                 default:
                     return NONE;
             }
         }
 
-        private static int allLong(House house, Market market) {
+        /** Of all MEMBERS, as issue() numbers it: what 2 LONG, 3 SHORT, 4 STOCK. */
+        private static int overMembers(House house, Market market, int what) {
             int sum = 0;
             for (int member = 0; member < house.members(); member++) {
-                sum += market.longOf(member);
-            }
-            return sum;
-        }
-
-        private static int allShort(House house, Market market) {
-            int sum = 0;
-            for (int member = 0; member < house.members(); member++) {
-                sum += market.shortOf(member);
-            }
-            return sum;
-        }
-
-        private static int allStock(House house, Market market) {
-            int sum = 0;
-            for (int member = 0; member < house.members(); member++) {
-                sum += market.stock[member];
+                if (what == 4) {
+                    sum += market.stock[member];
+                } else {
+                    sum += what == 2 ? market.longOf(member) : market.shortOf(member);
+                }
             }
             return sum;
         }
@@ -1399,23 +1394,14 @@ public final class RollingNets {
             return eldest;
         }
 
-        private static int openApart(House house, int issue) {
+        /** A column of TRADES, added: of an ISSUE and a sort (APART 1, else 0), each of all if it is NONE. */
+        static int overDeals(House house, int issue, int apart, int column) {
             Table deals = house.deals;
             int sum = 0;
             for (int trade = 0; trade < deals.size(); trade++) {
-                if (deals.get(ISSUE, trade) == issue && deals.get(APART, trade) == 1) {
-                    sum += deals.get(OPEN, trade);
-                }
-            }
-            return sum;
-        }
-
-        static int openNet(House house) {
-            Table deals = house.deals;
-            int sum = 0;
-            for (int trade = 0; trade < deals.size(); trade++) {
-                if (deals.get(APART, trade) == 0) {
-                    sum += deals.get(OPEN, trade);
+                boolean isOfIssue = issue == NONE || deals.get(ISSUE, trade) == issue;
+                if (isOfIssue && (apart == NONE || deals.get(APART, trade) == apart)) {
+                    sum += deals.get(column, trade);
                 }
             }
             return sum;
@@ -1429,16 +1415,6 @@ public final class RollingNets {
                 }
             }
             return count;
-        }
-
-        private static int allShares(House house, int issue) {
-            int sum = 0;
-            for (int trade = 0; trade < house.deals.size(); trade++) {
-                if (house.deals.get(ISSUE, trade) == issue) {
-                    sum += house.deals.get(SHARES, trade);
-                }
-            }
-            return sum;
         }
 
         static int openNotices(House house) {

@@ -10,6 +10,7 @@ public final class ImageTest {
         planIsBack();
         goesOn();
         imageOfBefore();
+        ranksAreBack();
         due.end();
     }
 
@@ -43,6 +44,7 @@ public final class ImageTest {
                 }
             }
         }
+        sum = sum * 31 + x.stress(7);
         for (int issue = 0; issue < 6; issue++) {
             for (int what = 0; what < 9; what++) {
                 sum = sum * 31 + x.issue(issue, what);
@@ -143,7 +145,6 @@ public final class ImageTest {
         x.run(24);
         PlanTest.tape(x, "night 1;");
         x.plan();
-        x.run(1);
         due.is("gone back", x.image(false), true);
         due.is("lines", x.look(13), 3);
         due.is("lines run", x.look(14), 1);
@@ -167,6 +168,20 @@ public final class ImageTest {
         fill(y, 3);
         due.is("the same", sum(x), sum(y));
         due.is("the same tomorrow", x.tomorrow(3, 2, 9), y.tomorrow(3, 2, 9));
+    }
+
+    private static void ranksAreBack() {
+        RollingNets x = new RollingNets();
+        x.set(1, 0);
+        x.trade(0, 5, 0, 1, 1);
+        x.trade(1, 5, 0, 1, 1);
+        x.night(1);
+        x.tell(1, 0, 3, 4);
+        x.image(true);
+        x.tell(0, 0, 3, 5);
+        due.is("0 goes first", x.queue(0, 0, 0), 0);
+        x.image(false);
+        due.is("1 goes first", x.queue(0, 0, 0), 1);
     }
 
     /** Taken before there was a trade: members can be told again. */

@@ -21,6 +21,7 @@ public final class NightTest {
         borrowerLends();
         apartAllOrNone();
         apartByNumber();
+        deliveredToMemberZero();
         marks();
         dividends();
         dividendOfThoseThere();
@@ -515,6 +516,25 @@ public final class NightTest {
         due.is("trade 2: passed on the same night", x.deal(2, 7), 0);
         due.is("stock of 0", x.at(0, 0, 1), 6);
         due.is("of another issue", x.deal(4, 7), 4);
+        x.tell(2, 0, 0, 4);
+        x.tell(4, 0, 0, 3);
+        x.night(1);
+        due.is("trade 3", x.deal(3, 7), 0);
+        due.is("stock comes to what there is", x.at(4, 0, 1), 7);
+    }
+
+    private static void deliveredToMemberZero() {
+        RollingNets x = noLag();
+        x.trade(1, 0, 0, 5, 100);
+        x.tell(0, 0, 0, 3);
+        x.dividend(0, 2);
+        x.set(6, 100);
+        x.night(1);
+        due.is("0 has delivered", x.at(0, 0, 0), -2);
+        due.is("0 fails", x.at(0, 0, 9), 1);
+        // 3 at 100, the dividend on two that it owes, a fee of 2 * 100 * 100 / 10000.
+        due.is("cash of 0", x.cash(0), 300 - 4 - 2);
+        due.is("cash of 1", x.cash(1), -300 + 10);
     }
 
     private static void marks() {

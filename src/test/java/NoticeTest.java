@@ -17,7 +17,9 @@ public final class NoticeTest {
         closeNetGrace();
         closeNetTwo();
         buyPriceIsCut();
+        assignedToTheFirst();
         giveSixty();
+        oneShareApart();
         call();
         callWrong();
         closeApart();
@@ -427,6 +429,43 @@ public final class NoticeTest {
         due.is("60, open or not", x.call(1), -1);
         due.is("notice(60, 0)", x.notice(60, 0), -1);
         due.is("long", x.at(0, 0, 0), 40);
+    }
+
+    /** Member 0 is one whom shares can be assigned to. */
+    private static void assignedToTheFirst() {
+        RollingNets x = noLag();
+        x.set(4, 1);
+        x.trade(5, 0, 0, 10, 100);
+        x.trade(4, 1, 0, 10, 100);
+        x.night(1);
+        due.is("give", x.give(5, 0, 8), 0);
+        notice(x, 0, 5, 0, 8, 2, 1, -1, 0, 8, 0, 0, 0, 0, 0);
+        due.is("give", x.give(4, 0, 10), 1);
+        notice(x, 1, 4, 0, 10, 2, 1, -1, 0, 2, 8, 0, 0, 0, 0);
+        x.tell(0, 0, 0, 9);
+        x.night(1);
+        due.is("delivered", x.notice(0, 10), 0);
+        due.is("delivered", x.notice(1, 10), 1);
+        x.night(1);
+        due.is("nothing was left of the first", x.notice(0, 6), 0);
+        due.is("4 was allotted nine, and waited for one", x.notice(1, 6), 1);
+        due.is("bought in of 0", x.statement(0, 4, false), 1);
+        due.is("not of 1", x.statement(1, 4, false), 0);
+    }
+
+    private static void oneShareApart() {
+        RollingNets x = noLag();
+        x.set(4, 0);
+        x.tell(0, 0, 0, 6);
+        x.apart(0, 1, 0, 1, 100);
+        x.apart(1, 2, 0, 1, 100);
+        x.night(1);
+        due.is("reached", x.reached(0, 1), 2);
+        due.is("call", x.call(0), 0);
+        x.night(1);
+        due.is("bought in", x.notice(0, 6), 1);
+        due.is("stock: one more", x.at(0, 0, 1), 7);
+        due.is("open", x.deal(1, 7), 0);
     }
 
     private static void call() {

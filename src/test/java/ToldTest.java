@@ -350,6 +350,7 @@ public final class ToldTest {
         splitPosition();
         splitLent();
         splitNotThere();
+        splitJustBounds();
     }
 
     private static void splitPosition() {
@@ -415,6 +416,50 @@ public final class ToldTest {
         }
         x.set(0, 6);
         due.is("its stock as it was", x.at(5, 0, 1), 99999);
+    }
+
+    /** 99999999 can be, 100000000 can't; a number of one not there bars nothing. */
+    private static void splitJustBounds() {
+        RollingNets x = new RollingNets();
+        x.tell(0, 0, 0, 33333);
+        int[] by = {5, 5, 5, 4, 2};
+        splitAll(x, by);
+        x.tell(1, 0, 0, 333);
+        due.is("move", x.move(1, 0, 0, 333), true);
+        due.is("stock", x.at(0, 0, 1), 33333333);
+        x.price(0, 60);
+        x.night(1);
+        due.is("split to 133333332", x.split(0, 4), false);
+        due.is("split to 99999999", x.split(0, 3), true);
+        due.is("stock", x.at(0, 0, 1), 99999999);
+
+        RollingNets y = new RollingNets();
+        y.tell(0, 0, 2, 50000);
+        int[] less = {5, 5, 5, 4};
+        splitAll(y, less);
+        y.price(0, 60);
+        y.night(1);
+        due.is("split to 100000000", y.split(0, 4), false);
+        due.is("split to 75000000", y.split(0, 3), true);
+
+        RollingNets z = new RollingNets();
+        z.tell(5, 0, 1, 99999);
+        splitAll(z, by);
+        due.is("split beyond 99999999", z.split(0, 2), false);
+        z.set(0, 5);
+        z.price(0, 60);
+        z.night(1);
+        due.is("split, the rich one not there", z.split(0, 2), true);
+        z.set(0, 6);
+        due.is("its number as it was", z.at(5, 0, 3), 99999000);
+    }
+
+    private static void splitAll(RollingNets x, int[] by) {
+        for (int n : by) {
+            x.price(0, 100);
+            x.night(1);
+            due.is("split by " + n, x.split(0, n), true);
+        }
     }
 
     private static void suspend() {

@@ -14,7 +14,10 @@ public final class ViewTest {
         stressCuts();
         queue();
         queueOrder();
+        longQueue();
+        oneShare();
         aged();
+        agedAreShort();
         tomorrow();
         tomorrowEach();
         tomorrowWrong();
@@ -282,6 +285,70 @@ public final class ViewTest {
         due.is("noticed: third", x.queue(0, 2, 0), 5);
         due.is("ahead of 4", x.ahead(4, 0), 3);
         due.is("ahead of 3", x.ahead(3, 0), 1);
+    }
+
+    private static void longQueue() {
+        RollingNets x = noLag();
+        x.set(2, 9);
+        for (int day = 0; day < 50; day++) {
+            for (int member = 0; member < 4; member++) {
+                x.trade(member, 5, 0, 1 + day, 100);
+            }
+            x.night(1);
+        }
+        due.is("how many", x.queue(0, -1, 0), 200);
+        for (int i = 0; i < 200; i++) {
+            due.is("member", x.queue(0, i, 0), i % 4);
+            due.is("day", x.queue(0, i, 1), i / 4);
+            due.is("shares", x.queue(0, i, 2), 1 + i / 4);
+        }
+        due.is("i 200", x.queue(0, 200, 0), -1);
+        due.is("lots", x.at(5, 0, 6), 50);
+        due.is("ahead", x.ahead(3, 0), 3);
+        x.suspend(0, true);
+        due.is("ahead of the suspended", x.ahead(0, 0), 3 * 50 * 51 / 2);
+    }
+
+    /** A lot of one share is one; member 0 is one, too. */
+    private static void oneShare() {
+        RollingNets x = noLag();
+        x.trade(1, 0, 0, 1, 100);
+        x.night(1);
+        due.is("long", x.lot(1, 0, 0, 1), 1);
+        due.is("short", x.lot(0, 0, 0, 1), -1);
+        due.is("look(18)", x.look(18), 1);
+        due.is("issue: long", x.issue(0, 2), 1);
+        due.is("issue: short", x.issue(0, 3), 1);
+        due.is("aged", x.aged(0, 1), 1);
+        x.tell(0, 0, 0, 5);
+        x.tell(0, 0, 2, 5);
+        due.is("could lend: short by one", x.at(0, 0, 8), 0);
+        x.trade(0, 2, 0, 1, 100);
+        x.trade(3, 1, 0, 1, 100);
+        x.night(1);
+        due.is("netted: no lots", x.at(0, 0, 6), 0);
+        due.is("netted: no lots", x.at(1, 0, 6), 0);
+        due.is("on day 1", x.lot(2, 0, 0, 0), 1);
+        due.is("on day 1", x.lot(3, 0, 0, 0), 1);
+        x.tell(0, 0, 0, 1);
+        x.night(2);
+        due.is("lent", x.at(0, 0, 5), 1);
+        due.is("lent", x.at(3, 0, 1), 1);
+        due.is("lender's lot", x.lot(0, 0, 0, 0), 3);
+    }
+
+    /** Of SHORT LOTS alone: who waits has waited longer here than who owes. */
+    private static void agedAreShort() {
+        RollingNets x = noLag();
+        x.trade(0, 1, 0, 10, 100);
+        x.night(2);
+        x.trade(1, 2, 0, 10, 100);
+        x.night(1);
+        due.is("long since day 0", x.lot(0, 0, 0, 0), 0);
+        due.is("short since day 2", x.lot(2, 0, 0, 0), 2);
+        due.is("aged(0, 1)", x.aged(0, 1), 10);
+        due.is("aged(0, 2)", x.aged(0, 2), 0);
+        due.is("aged(0, 3)", x.aged(0, 3), 0);
     }
 
     private static void aged() {
