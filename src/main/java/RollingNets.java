@@ -408,11 +408,12 @@ public final class RollingNets {
     }
 
     public int queue(int issue, int i, int what) {
-        if (!isIssue(issue) || !within(what, 0, 2)) {
+        if (!isIssue(issue)) {
             return NONE;
         }
         Line line = now.line;
         line.form(now, issue);
+        // How many are asked of no i-th: then the what, which is of one, is not looked at.
         if (i == NONE) {
             return line.size;
         }
@@ -424,8 +425,10 @@ public final class RollingNets {
                 return line.member[i];
             case 1:
                 return line.day[i];
-            default:
+            case 2:
                 return now.markets[issue].lots[line.member[i]][line.day[i]];
+            default:
+                return NONE;
         }
     }
 

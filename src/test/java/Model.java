@@ -944,14 +944,14 @@ final class Model {
     }
 
     int queue(int i, int j, int what) {
-        if (!anIssue(i) || what < 0 || what > 2) {
+        if (!anIssue(i)) {
             return NONE;
         }
         List<Place> q = queueOf(i);
         if (j == NONE) {
             return q.size();
         }
-        if (j < 0 || j >= q.size()) {
+        if (j < 0 || j >= q.size() || what < 0 || what > 2) {
             return NONE;
         }
         Place p = q.get(j);

@@ -48,6 +48,7 @@ public final class ToldTest {
                 due.is("new: issue(.., " + what + ")", x.issue(issue, what), fresh[what]);
             }
             due.is("new: queue", x.queue(issue, -1, 0), 0);
+            due.is("new: queue, another what", x.queue(issue, -1, 3), 0);
         }
         due.is("new: deal", x.deal(0, 0), -1);
         due.is("new: notice", x.notice(0, 0), -1);

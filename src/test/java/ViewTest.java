@@ -234,8 +234,12 @@ public final class ViewTest {
         x.trade(0, 1, 2, 5, 100);
         x.night(1);
         int[][] want = {{0, 0, 30}, {2, 0, 8}, {0, 1, 5}};
-        due.is("how many", x.queue(3, -1, 0), 3);
-        due.is("how many", x.queue(3, -1, 2), 3);
+        for (int what : new int[] {0, 1, 2, 3, 10, -1, -2, Integer.MAX_VALUE, Integer.MIN_VALUE}) {
+            due.is("how many, what " + what, x.queue(3, -1, what), 3);
+            due.is("how many of none, what " + what, x.queue(5, -1, what), 0);
+            due.is("how many of issue 6, what " + what, x.queue(6, -1, what), -1);
+            due.is("how many of issue -1, what " + what, x.queue(-1, -1, what), -1);
+        }
         for (int i = 0; i < 3; i++) {
             for (int what = 0; what < 3; what++) {
                 due.is("queue(3, " + i + ", " + what + ")", x.queue(3, i, what), want[i][what]);
@@ -243,6 +247,8 @@ public final class ViewTest {
             due.is("what 3", x.queue(3, i, 3), -1);
             due.is("what -1", x.queue(3, i, -1), -1);
         }
+        due.is("i 3, what 3", x.queue(3, 3, 3), -1);
+        due.is("i -2, what 3", x.queue(3, -2, 3), -1);
         due.is("i 3", x.queue(3, 3, 0), -1);
         due.is("i -2", x.queue(3, -2, 0), -1);
         due.is("i MAX", x.queue(3, Integer.MAX_VALUE, 0), -1);
