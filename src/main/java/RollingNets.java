@@ -587,7 +587,8 @@ public final class RollingNets {
 
     /** One ISSUE: its PRICE, and what every MEMBER has of it. */
     private static final class Market {
-        private final int[] stock = new int[MEMBERS_MOST];
+        // No bound holds what a MEMBER may have by MOVED: more than an int can tell.
+        private final long[] stock = new long[MEMBERS_MOST];
         private final int[] reserved = new int[MEMBERS_MOST];
         private final int[] lends = new int[MEMBERS_MOST];
         private final int[] lent = new int[MEMBERS_MOST];
@@ -681,8 +682,8 @@ public final class RollingNets {
             return true;
         }
 
-        private int greatest(int member) {
-            int held = Math.max(stock[member], reserved[member]);
+        private long greatest(int member) {
+            long held = Math.max(stock[member], reserved[member]);
             int given = Math.max(lends[member], lent[member]);
             return Math.max(Math.max(held, given), Math.abs(position[member]));
         }
@@ -752,9 +753,9 @@ public final class RollingNets {
             return member >= 0 && member < told[MEMBERS];
         }
 
-        int freeOf(int issue, int member) {
+        long freeOf(int issue, int member) {
             Market market = markets[issue];
-            return suspended[member] ? 0 : Math.max(0, market.stock[member] - market.reserved[member]);
+            return suspended[member] ? 0L : Math.max(0L, market.stock[member] - market.reserved[member]);
         }
 
         int canLend(int issue, int member) {
@@ -762,8 +763,8 @@ public final class RollingNets {
             if (market.shortOf(member) > 0) {
                 return 0;
             }
-            int left = market.lends[member] - market.lent[member];
-            return Math.max(0, Math.min(freeOf(issue, member), left));
+            long left = market.lends[member] - market.lent[member];
+            return (int) Math.max(0L, Math.min(freeOf(issue, member), left));
         }
 
         int buyPrice(int issue) {
@@ -843,9 +844,9 @@ public final class RollingNets {
                 case 0:
                     return market.position[member];
                 case 1:
-                    return market.stock[member];
+                    return (int) market.stock[member];
                 case 2:
-                    return freeOf(issue, member);
+                    return (int) freeOf(issue, member);
                 case 3:
                     return market.reserved[member];
                 case 4:
@@ -996,7 +997,7 @@ public final class RollingNets {
 
         private static int deliver(House house, int issue, int member) {
             Market market = house.markets[issue];
-            int n = Math.min(market.shortOf(member), house.freeOf(issue, member));
+            int n = (int) Math.min(market.shortOf(member), house.freeOf(issue, member));
             if (n == 0) {
                 return 0;
             }
@@ -1375,7 +1376,7 @@ public final class RollingNets {
 
         /** Of all MEMBERS, as issue() numbers it: what 2 LONG, 3 SHORT, 4 STOCK. */
         private static int overMembers(House house, Market market, int what) {
-            int sum = 0;
+            long sum = 0L;
             for (int member = 0; member < house.members(); member++) {
                 if (what == 4) {
                     sum += market.stock[member];
@@ -1383,7 +1384,7 @@ public final class RollingNets {
                     sum += what == 2 ? market.longOf(member) : market.shortOf(member);
                 }
             }
-            return sum;
+            return (int) sum;
         }
 
         private static int eldestDay(House house, Market market) {

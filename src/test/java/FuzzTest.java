@@ -18,6 +18,7 @@ public final class FuzzTest {
     private final int issues;
     private final int sharesMost;
     private final int wrongOneIn;
+    private final boolean isRich;
     private boolean isWrong = false;
 
     private FuzzTest(int seed) {
@@ -27,6 +28,7 @@ public final class FuzzTest {
         issues = 1 + draw.nextInt(draw.nextBoolean() ? 1 : 6);
         sharesMost = draw.nextInt(4) == 0 ? 9999 : 60;
         wrongOneIn = draw.nextBoolean() ? 25 : 400;
+        isRich = seed % 6 == 5;
     }
 
     public static void main(String[] args) {
@@ -100,6 +102,9 @@ public final class FuzzTest {
         set(4, draw.nextInt(3));
         set(5, draw.nextInt(101));
         set(6, draw.nextBoolean() ? 0 : draw.nextInt(101));
+        if (isRich) {
+            grow();
+        }
         for (int k = 0; k < members; k++) {
             for (int i = 0; i < issues; i++) {
                 if (draw.nextInt(3) == 0) {
@@ -108,6 +113,36 @@ public final class FuzzTest {
                 }
             }
         }
+    }
+
+    /** One MEMBER gets more STOCK of ISSUE 0 than an int can tell: it is not there when the others' is SPLIT. */
+    private void grow() {
+        int rich = 11;
+        int[] by = {5, 5, 5, 2, 2, 2};
+        for (int round = 0; round < 2; round++) {
+            set(0, rich);
+            for (int k = 0; k < rich; k++) {
+                tell(k, 0, 0, 99999);
+            }
+            same("price(0, 4000)", x.price(0, 4000), y.price(0, 4000));
+            same("night(1)", x.night(1), y.night(1));
+            for (int n : by) {
+                same(text("split", 0, n), x.split(0, n), y.split(0, n));
+            }
+            set(0, 12);
+            for (int k = 0; k < rich; k++) {
+                move(k, rich, 0, 99999000);
+            }
+        }
+        if (members < 12) {
+            move(rich, members - 1, 0, Integer.MAX_VALUE);
+            move(rich, members - 1, 0, 1 + draw.nextInt(50000000));
+        }
+        set(0, members);
+    }
+
+    private void move(int from, int to, int i, int n) {
+        same(text("move", from, to, i, n), x.move(from, to, i, n), y.move(from, to, i, n));
     }
 
     private void set(int what, int v) {
@@ -212,9 +247,8 @@ public final class FuzzTest {
                 break;
             }
             case 1: {
-                int to = member();
-                int n = number(1, sharesMost);
-                same(text("move", k, to, i, n), x.move(k, to, i, n), y.move(k, to, i, n));
+                boolean isMuch = isRich && draw.nextInt(8) == 0;
+                move(k, member(), i, isMuch ? draw.nextInt(Integer.MAX_VALUE) : number(1, sharesMost));
                 break;
             }
             case 2: {

@@ -69,7 +69,7 @@ final class Model {
         int[] rank = new int[12];
         int[] collateral = new int[12];
         boolean[] suspended = new boolean[12];
-        int[][] stock = new int[12][6];
+        long[][] stock = new long[12][6]; // what is MOVED to a MEMBER has no bound
         int[][] reserved = new int[12][6];
         int[][] lends = new int[12][6];
         int[][] lent = new int[12][6];
@@ -103,7 +103,9 @@ final class Model {
             c.rank = rank.clone();
             c.collateral = collateral.clone();
             c.suspended = suspended.clone();
-            c.stock = deep(stock);
+            for (int m = 0; m < 12; m++) {
+                c.stock[m] = stock[m].clone();
+            }
             c.reserved = deep(reserved);
             c.lends = deep(lends);
             c.lent = deep(lent);
@@ -183,7 +185,7 @@ final class Model {
         return longOf(k, i) - shortOf(k, i);
     }
 
-    int free(int k, int i) {
+    long free(int k, int i) {
         if (s.suspended[k]) {
             return 0;
         }
@@ -194,7 +196,7 @@ final class Model {
         if (shortOf(k, i) > 0) {
             return 0;
         }
-        return Math.max(0, Math.min(free(k, i), s.lends[k][i] - s.lent[k][i]));
+        return (int) Math.max(0, Math.min(free(k, i), s.lends[k][i] - s.lent[k][i]));
     }
 
     /** Takes n off the first lots, whichever sort they are. */
@@ -296,7 +298,7 @@ final class Model {
         }
         givers.sort(Comparator.<Integer>comparingInt(k -> s.lots.get(k).get(i).get(0).day).thenComparingInt(k -> k));
         for (int k : givers) {
-            int n = Math.min(shortOf(k, i), free(k, i));
+            int n = (int) Math.min(shortOf(k, i), free(k, i));
             if (n > 0) {
                 s.stock[k][i] -= n;
                 s.cash[k] += (long) n * s.marked[i];
@@ -490,7 +492,11 @@ final class Model {
         if (!anIssue(i) || v > 99999) {
             return false;
         }
-        (what == 0 ? s.stock : what == 1 ? s.reserved : s.lends)[k][i] = v;
+        if (what == 0) {
+            s.stock[k][i] = v;
+        } else {
+            (what == 1 ? s.reserved : s.lends)[k][i] = v;
+        }
         return true;
     }
 
@@ -832,8 +838,8 @@ final class Model {
         List<Lot> row = s.lots.get(k).get(i);
         switch (what) {
             case 0: return position(k, i);
-            case 1: return s.stock[k][i];
-            case 2: return free(k, i);
+            case 1: return (int) s.stock[k][i];
+            case 2: return (int) free(k, i);
             case 3: return s.reserved[k][i];
             case 4: return s.lends[k][i];
             case 5: return s.lent[k][i];
