@@ -24,45 +24,6 @@ public final class ImageTest {
         due.is("gone back", x.image(false), true);
     }
 
-    /** All that can be asked, as one row of numbers. */
-    private static long sum(RollingNets x) {
-        long sum = 0;
-        for (int what = 0; what < 20; what++) {
-            sum = sum * 31 + x.look(what);
-        }
-        for (int member = 0; member < 12; member++) {
-            sum = sum * 31 + x.cash(member);
-            sum = sum * 31 + x.margin(member, 0);
-            sum = sum * 31 + x.margin(member, 1);
-            for (int issue = 0; issue < 6; issue++) {
-                for (int what = 0; what < 10; what++) {
-                    sum = sum * 31 + x.at(member, issue, what);
-                }
-                for (int i = 0; i < 20; i++) {
-                    sum = sum * 31 + x.lot(member, issue, i, 0);
-                    sum = sum * 31 + x.lot(member, issue, i, 1);
-                }
-            }
-        }
-        sum = sum * 31 + x.stress(7);
-        for (int issue = 0; issue < 6; issue++) {
-            for (int what = 0; what < 9; what++) {
-                sum = sum * 31 + x.issue(issue, what);
-            }
-            for (int i = 0; i < 20; i++) {
-                sum = sum * 31 + x.queue(issue, i, 0);
-            }
-        }
-        for (int i = 0; i < 40; i++) {
-            for (int what = 0; what < 22; what++) {
-                sum = sum * 31 + x.deal(i, what);
-                sum = sum * 31 + x.notice(i, what);
-                sum = sum * 31 + x.book(i, what);
-            }
-        }
-        return sum;
-    }
-
     private static void fill(RollingNets x, int by) {
         for (int what = 1; what < 7; what++) {
             x.set(what, 1 + by % 2);
@@ -88,37 +49,54 @@ public final class ImageTest {
         x.dividend(2, 1);
     }
 
-    private static void everythingIsBack() {
+    /** Filled so many times, each time else. */
+    private static RollingNets filled(int... by) {
         RollingNets x = new RollingNets();
-        fill(x, 1);
-        long before = sum(x);
+        for (int one : by) {
+            fill(x, one);
+        }
+        return x;
+    }
+
+    private static RollingNets taken(RollingNets x) {
         due.is("taken", x.image(true), true);
-        due.is("as it is", sum(x), before);
-        long cash = x.tomorrow(1, 0, 9);
-        fill(x, 4);
-        x.split(0, 2);
-        due.is("else now", sum(x) == before, false);
+        return x;
+    }
+
+    private static RollingNets goneBack(RollingNets x) {
         due.is("gone back", x.image(false), true);
-        due.is("as it was", sum(x), before);
-        due.is("and goes on likewise", x.tomorrow(1, 0, 9), cash);
+        return x;
+    }
+
+    private static RollingNets changed(int by) {
+        RollingNets x = taken(filled(1));
+        fill(x, by);
+        x.split(0, 2);
+        return x;
+    }
+
+    private static void everythingIsBack() {
+        due.is("else now", Asked.differences(() -> taken(filled(1)), () -> changed(4)) > 100, true);
+        Asked.same(due, "as it was", () -> taken(filled(1)), () -> goneBack(changed(4)));
+        Asked.same(due, "taking it changes nothing", () -> taken(filled(1)), () -> taken(taken(filled(1))));
     }
 
     private static void moreThanOnce() {
-        RollingNets x = new RollingNets();
-        fill(x, 2);
-        x.image(true);
-        long first = sum(x);
-        for (int k = 0; k < 3; k++) {
-            fill(x, 3 + k);
-            due.is("gone back", x.image(false), true);
-            due.is("as it was", sum(x), first);
-        }
-        fill(x, 7);
-        long second = sum(x);
-        due.is("taken anew", x.image(true), true);
-        fill(x, 8);
-        x.image(false);
-        due.is("the latest taken", sum(x), second);
+        Asked.same(due, "more than once", () -> taken(filled(2)), () -> {
+            RollingNets x = taken(filled(2));
+            for (int k = 0; k < 3; k++) {
+                fill(x, 3 + k);
+                goneBack(x);
+            }
+            return x;
+        });
+        Asked.same(due, "the latest taken", () -> taken(filled(2, 7)), () -> {
+            RollingNets x = taken(filled(2));
+            fill(x, 7);
+            taken(x);
+            fill(x, 8);
+            return goneBack(x);
+        });
     }
 
     private static void tapeAndFaultStay() {
@@ -156,18 +134,18 @@ public final class ImageTest {
 
     /** What comes after it is the same as if the rest had never been. */
     private static void goesOn() {
-        RollingNets x = new RollingNets();
-        RollingNets y = new RollingNets();
-        fill(x, 1);
-        fill(y, 1);
-        x.image(true);
-        fill(x, 6);
-        x.night(5);
-        x.image(false);
-        fill(x, 3);
-        fill(y, 3);
-        due.is("the same", sum(x), sum(y));
-        due.is("the same tomorrow", x.tomorrow(3, 2, 9), y.tomorrow(3, 2, 9));
+        Asked.same(due, "goes on", () -> {
+            RollingNets x = taken(filled(1));
+            fill(x, 3);
+            return x;
+        }, () -> {
+            RollingNets x = taken(filled(1));
+            fill(x, 6);
+            x.night(5);
+            goneBack(x);
+            fill(x, 3);
+            return x;
+        });
     }
 
     private static void ranksAreBack() {

@@ -41,24 +41,6 @@ public final class NightTest {
         return x;
     }
 
-    private static void line(RollingNets x, int i, int... want) {
-        for (int what = 0; what < want.length; what++) {
-            due.is("book(" + i + ", " + what + ")", x.book(i, what), want[what]);
-        }
-    }
-
-    private static void lots(RollingNets x, int member, int issue, int... want) {
-        due.is("at: lots of " + member, x.at(member, issue, 6), want.length / 2);
-        int sum = 0;
-        for (int i = 0; i < want.length / 2; i++) {
-            due.is("lot(" + member + ", .., " + i + ") day", x.lot(member, issue, i, 0), want[2 * i]);
-            due.is("lot(" + member + ", .., " + i + ") shares", x.lot(member, issue, i, 1), want[2 * i + 1]);
-            sum += want[2 * i + 1];
-        }
-        due.is("at: position of " + member, x.at(member, issue, 0), sum);
-        due.is("no more lots", x.lot(member, issue, want.length / 2, 0), -1);
-    }
-
     private static void counts() {
         RollingNets x = new RollingNets();
         due.is("night(0)", x.night(0), -1);
@@ -100,9 +82,9 @@ public final class NightTest {
         due.is("open", x.look(15), 114);
         x.night(1);
         // MARKED is 110 then: 10 times 20 to the buyer, 4 times 15 to the next.
-        lots(x, 0, 0, 2, 6);
-        lots(x, 1, 0, 2, -10);
-        lots(x, 2, 0, 2, 4);
+        due.lots(x, 0, 0, 2, 6);
+        due.lots(x, 1, 0, 2, -10);
+        due.lots(x, 2, 0, 2, 4);
         due.is("cash of 0", x.cash(0), 200 - 60);
         due.is("cash of 1", x.cash(1), -200);
         due.is("cash of 2", x.cash(2), 60);
@@ -110,8 +92,8 @@ public final class NightTest {
         due.is("open of 0", x.deal(0, 7), 0);
         due.is("open of 2", x.deal(2, 7), 100);
         x.night(1);
-        lots(x, 0, 0, 2, 6, 3, 100);
-        lots(x, 1, 0, 2, -10, 3, -100);
+        due.lots(x, 0, 0, 2, 6, 3, 100);
+        due.lots(x, 1, 0, 2, -10, 3, -100);
     }
 
     /** What is added to get takes off what is to be delivered, from the first lot on. */
@@ -123,20 +105,20 @@ public final class NightTest {
         x.night(1);
         x.trade(0, 1, 0, 30, 100);
         x.night(1);
-        lots(x, 0, 0, 0, 10, 1, 20, 2, 30);
-        lots(x, 1, 0, 0, -10, 1, -20, 2, -30);
+        due.lots(x, 0, 0, 0, 10, 1, 20, 2, 30);
+        due.lots(x, 1, 0, 0, -10, 1, -20, 2, -30);
         x.trade(1, 0, 0, 15, 100);
         x.night(1);
-        lots(x, 0, 0, 1, 15, 2, 30);
-        lots(x, 1, 0, 1, -15, 2, -30);
+        due.lots(x, 0, 0, 1, 15, 2, 30);
+        due.lots(x, 1, 0, 1, -15, 2, -30);
         x.trade(1, 2, 0, 45, 100);
         x.night(1);
-        lots(x, 1, 0);
-        lots(x, 2, 0, 4, -45);
+        due.lots(x, 1, 0);
+        due.lots(x, 2, 0, 4, -45);
         x.trade(3, 0, 0, 50, 100);
         x.night(1);
-        lots(x, 0, 0, 5, -5);
-        lots(x, 3, 0, 5, 50);
+        due.lots(x, 0, 0, 5, -5);
+        due.lots(x, 3, 0, 5, 50);
         due.is("first lot", x.at(0, 0, 7), 5);
         due.is("first lot", x.at(1, 0, 7), -1);
     }
@@ -146,14 +128,14 @@ public final class NightTest {
         x.trade(0, 1, 0, 10, 100);
         x.trade(0, 2, 0, 5, 100);
         x.night(1);
-        lots(x, 0, 0, 0, 15);
+        due.lots(x, 0, 0, 0, 15);
         // Bought and sold on one day: over what there was, the rest is of that day.
         x.trade(3, 0, 0, 20, 100);
         x.trade(0, 3, 0, 7, 100);
         x.night(1);
-        lots(x, 0, 0, 1, 2);
-        lots(x, 3, 0, 1, 13);
-        lots(x, 1, 0, 0, -10);
+        due.lots(x, 0, 0, 1, 2);
+        due.lots(x, 3, 0, 1, 13);
+        due.lots(x, 1, 0, 0, -10);
     }
 
     private static void delivering() {
@@ -162,23 +144,23 @@ public final class NightTest {
         x.tell(1, 5, 0, 45);
         x.tell(1, 5, 1, 5);
         x.night(1);
-        line(x, 0, 0, 0, 5, 1, -1, 40);
-        line(x, 1, 0, 1, 5, -1, 0, 40);
+        due.line(x, 0, 0, 0, 5, 1, -1, 40);
+        due.line(x, 1, 0, 1, 5, -1, 0, 40);
         due.is("two lines", x.look(10), 2);
         due.is("stock left", x.at(1, 5, 1), 5);
         due.is("stock come", x.at(0, 5, 1), 40);
         due.is("cash", x.cash(1), 4000);
         due.is("cash", x.cash(0), -4000);
-        lots(x, 1, 5, 0, -60);
-        lots(x, 0, 5, 0, 60);
+        due.lots(x, 1, 5, 0, -60);
+        due.lots(x, 0, 5, 0, 60);
         x.night(1);
         due.is("nothing free: no line", x.look(10), 2);
         x.tell(1, 5, 0, 1000);
         x.night(1);
         due.is("no more than is short", x.at(1, 5, 1), 940);
-        line(x, 2, 2, 0, 5, 1, -1, 60);
-        line(x, 3, 2, 1, 5, -1, 0, 60);
-        lots(x, 0, 5);
+        due.line(x, 2, 2, 0, 5, 1, -1, 60);
+        due.line(x, 3, 2, 1, 5, -1, 0, 60);
+        due.lots(x, 0, 5);
         due.is("never more than bought", x.at(0, 5, 1), 100);
         x.night(1);
         due.is("no lots: no line", x.look(10), 4);
@@ -197,14 +179,14 @@ public final class NightTest {
             x.tell(member, 0, 0, 20);
         }
         x.night(1);
-        line(x, 0, 2, 0, 0, 4, -1, 20);
-        line(x, 1, 2, 0, 0, 1, -1, 7);
-        line(x, 2, 2, 0, 0, 3, -1, 6);
-        line(x, 3, 2, 1, 0, -1, 0, 5);
-        line(x, 4, 2, 1, 0, -1, 0, 28);
+        due.line(x, 0, 2, 0, 0, 4, -1, 20);
+        due.line(x, 1, 2, 0, 0, 1, -1, 7);
+        due.line(x, 2, 2, 0, 0, 3, -1, 6);
+        due.line(x, 3, 2, 1, 0, -1, 0, 5);
+        due.line(x, 4, 2, 1, 0, -1, 0, 28);
         due.is("five lines", x.look(10), 5);
-        lots(x, 4, 0, 1, -35);
-        lots(x, 0, 0, 1, 35);
+        due.lots(x, 4, 0, 1, -35);
+        due.lots(x, 0, 0, 1, 35);
     }
 
     private static void suspendedDoNotDeliver() {
@@ -216,11 +198,11 @@ public final class NightTest {
         x.night(1);
         due.is("no line", x.look(10), 0);
         due.is("stock stays", x.at(1, 0, 1), 20);
-        lots(x, 1, 0, 0, -5);
+        due.lots(x, 1, 0, 0, -5);
         x.suspend(1, false);
         x.night(1);
         due.is("stock gone", x.at(1, 0, 1), 11);
-        line(x, 2, 1, 3, 0, 1, 2, 4);
+        due.line(x, 2, 1, 3, 0, 1, 2, 4);
     }
 
     private static void allottingByAge() {
@@ -235,14 +217,14 @@ public final class NightTest {
         x.trade(0, 5, 0, 10, 100);
         x.tell(5, 0, 0, 47);
         x.night(1);
-        line(x, 0, 2, 0, 0, 5, -1, 47);
-        line(x, 1, 2, 1, 0, -1, 3, 10);
-        line(x, 2, 2, 1, 0, -1, 1, 10);
-        line(x, 3, 2, 1, 0, -1, 2, 10);
-        line(x, 4, 2, 1, 0, -1, 0, 10);
-        line(x, 5, 2, 1, 0, -1, 3, 7);
-        lots(x, 3, 0, 2, 3);
-        lots(x, 0, 0);
+        due.line(x, 0, 2, 0, 0, 5, -1, 47);
+        due.line(x, 1, 2, 1, 0, -1, 3, 10);
+        due.line(x, 2, 2, 1, 0, -1, 1, 10);
+        due.line(x, 3, 2, 1, 0, -1, 2, 10);
+        due.line(x, 4, 2, 1, 0, -1, 0, 10);
+        due.line(x, 5, 2, 1, 0, -1, 3, 7);
+        due.lots(x, 3, 0, 2, 3);
+        due.lots(x, 0, 0);
     }
 
     private static void allottingByRank() {
@@ -259,13 +241,13 @@ public final class NightTest {
         for (int k = 0; k < 5; k++) {
             due.is("allotted", x.book(1 + k, 4), order[k]);
         }
-        lots(x, 1, 0, 0, 5);
+        due.lots(x, 1, 0, 0, 5);
         // Age goes ahead of rank.
         x.trade(3, 5, 0, 10, 100);
         x.tell(5, 0, 0, 6);
         x.night(1);
-        line(x, 7, 1, 1, 0, -1, 1, 5);
-        line(x, 8, 1, 1, 0, -1, 3, 1);
+        due.line(x, 7, 1, 1, 0, -1, 1, 5);
+        due.line(x, 8, 1, 1, 0, -1, 3, 1);
     }
 
     private static void allottingSuspendedLast() {
@@ -278,8 +260,8 @@ public final class NightTest {
         x.tell(0, 0, 3, 9);
         x.tell(5, 0, 0, 14);
         x.night(1);
-        line(x, 1, 1, 1, 0, -1, 1, 10);
-        line(x, 2, 1, 1, 0, -1, 0, 4);
+        due.line(x, 1, 1, 1, 0, -1, 1, 10);
+        due.line(x, 2, 1, 1, 0, -1, 0, 4);
         due.is("served, though suspended", x.at(0, 0, 1), 4);
         // Even a notice brings the suspended no further.
         x.night(3);
@@ -287,8 +269,8 @@ public final class NightTest {
         due.is("give", x.give(0, 0, 6), 0);
         x.tell(5, 0, 0, 11);
         x.night(1);
-        line(x, 4, 5, 1, 0, -1, 1, 10);
-        line(x, 5, 5, 1, 0, -1, 0, 1);
+        due.line(x, 4, 5, 1, 0, -1, 1, 10);
+        due.line(x, 5, 5, 1, 0, -1, 0, 1);
     }
 
     private static void allottingNoticedFirst() {
@@ -308,16 +290,16 @@ public final class NightTest {
         x.tell(5, 0, 0, 22);
         x.night(1);
         // 4 has a notice in net: all its lots go first; the notice apart brings 3 nothing.
-        line(x, 0, 5, 0, 0, 5, -1, 22);
-        line(x, 1, 5, 1, 0, -1, 4, 10);
-        line(x, 2, 5, 1, 0, -1, 4, 5);
-        line(x, 3, 5, 1, 0, -1, 0, 7);
+        due.line(x, 0, 5, 0, 0, 5, -1, 22);
+        due.line(x, 1, 5, 1, 0, -1, 4, 10);
+        due.line(x, 2, 5, 1, 0, -1, 4, 5);
+        due.line(x, 3, 5, 1, 0, -1, 0, 7);
         // In another issue the notice counts nothing.
         x.trade(0, 5, 1, 5, 100);
         x.trade(4, 5, 1, 5, 100);
         x.tell(5, 1, 0, 1);
         x.night(1);
-        line(x, 5, 6, 1, 1, -1, 0, 1);
+        due.line(x, 5, 6, 1, 1, -1, 0, 1);
     }
 
     private static void allottedIsGivenBack() {
@@ -352,28 +334,28 @@ public final class NightTest {
         due.is("not old enough", x.look(10), 0);
         due.is("could lend", x.at(2, 0, 8), 4);
         x.night(1);
-        line(x, 0, 3, 2, 0, 2, 0, 4);
+        due.line(x, 0, 3, 2, 0, 2, 0, 4);
         due.is("stock of the lender", x.at(2, 0, 1), 46);
         due.is("stock of the borrower", x.at(0, 0, 1), 4);
         due.is("lent", x.at(2, 0, 5), 4);
         due.is("could lend no more", x.at(2, 0, 8), 0);
         due.is("cash of the lender", x.cash(2), 480);
         due.is("cash of the borrower", x.cash(0), -480 + 200);
-        lots(x, 2, 0, 3, 4);
-        lots(x, 0, 0, 0, 6);
-        lots(x, 1, 0, 0, -10);
+        due.lots(x, 2, 0, 3, 4);
+        due.lots(x, 0, 0, 0, 6);
+        due.lots(x, 1, 0, 0, -10);
         x.tell(2, 0, 2, 7);
         due.is("could lend the rest", x.at(2, 0, 8), 3);
         x.night(1);
-        line(x, 1, 4, 2, 0, 2, 0, 3);
-        lots(x, 2, 0, 3, 4, 4, 3);
+        due.line(x, 1, 4, 2, 0, 2, 0, 3);
+        due.lots(x, 2, 0, 3, 4, 4, 3);
         x.tell(2, 0, 2, 2);
         due.is("lent beyond what it lends", x.at(2, 0, 8), 0);
         x.tell(2, 0, 2, 100);
         due.is("free bounds it", x.at(2, 0, 8), 33);
         x.night(1);
-        line(x, 2, 5, 2, 0, 2, 0, 3);
-        lots(x, 0, 0);
+        due.line(x, 2, 5, 2, 0, 2, 0, 3);
+        due.lots(x, 0, 0);
         // The lender's own lots are old one day: none else lends, and it never lends to itself.
         x.night(9);
         due.is("no more loans", x.look(10), 3);
@@ -395,23 +377,23 @@ public final class NightTest {
         due.is("who is short can't lend", x.at(5, 0, 8), 0);
         x.suspend(3, true);
         x.night(1);
-        line(x, 0, 1, 2, 0, 2, 0, 30);
-        line(x, 1, 1, 2, 0, 4, 0, 20);
-        line(x, 2, 1, 2, 0, 1, 0, 9);
+        due.line(x, 0, 1, 2, 0, 2, 0, 30);
+        due.line(x, 1, 1, 2, 0, 4, 0, 20);
+        due.line(x, 2, 1, 2, 0, 1, 0, 9);
         due.is("three loans", x.look(10), 3);
-        lots(x, 0, 0, 0, 41);
+        due.lots(x, 0, 0, 0, 41);
         x.suspend(3, false);
         x.tell(2, 0, 0, 30);
         x.tell(2, 0, 2, 60);
         x.night(1);
         // Both can lend 30: 0 gets from 2 first, then 11 from 3.
-        line(x, 3, 2, 2, 0, 2, 0, 30);
-        line(x, 4, 2, 2, 0, 3, 0, 11);
-        lots(x, 0, 0);
+        due.line(x, 3, 2, 2, 0, 2, 0, 30);
+        due.line(x, 4, 2, 2, 0, 3, 0, 11);
+        due.lots(x, 0, 0);
         // 1, 2 and 4 wait, too, since day 1: 3 has 19 left for them; then 1 lends the 9 that it has just borrowed.
-        line(x, 5, 2, 2, 0, 3, 1, 9);
-        line(x, 6, 2, 2, 0, 3, 2, 10);
-        line(x, 7, 2, 2, 0, 1, 2, 9);
+        due.line(x, 5, 2, 2, 0, 3, 1, 9);
+        due.line(x, 6, 2, 2, 0, 3, 2, 10);
+        due.line(x, 7, 2, 2, 0, 1, 2, 9);
         due.is("eight loans", x.look(10), 8);
     }
 
@@ -429,14 +411,14 @@ public final class NightTest {
         x.tell(4, 0, 2, 13);
         x.night(1);
         // Only lots of day 0 are old enough; the suspended one comes last, and is served.
-        line(x, 0, 2, 2, 0, 4, 3, 10);
-        line(x, 1, 2, 2, 0, 4, 2, 3);
+        due.line(x, 0, 2, 2, 0, 4, 3, 10);
+        due.line(x, 1, 2, 2, 0, 4, 2, 3);
         due.is("two loans", x.look(10), 2);
         x.tell(4, 0, 2, 24);
         x.night(1);
-        line(x, 2, 3, 2, 0, 4, 1, 10);
-        line(x, 3, 3, 2, 0, 4, 2, 1);
-        lots(x, 4, 0, 2, 13, 3, 11);
+        due.line(x, 2, 3, 2, 0, 4, 1, 10);
+        due.line(x, 3, 3, 2, 0, 4, 2, 1);
+        due.lots(x, 4, 0, 2, 13, 3, 11);
     }
 
     /** Who has just borrowed can lend to a later lot, even of one whose earlier lot found no lender. */
@@ -455,11 +437,11 @@ public final class NightTest {
         x.night(1);
         // The lot of day 0 finds none to lend (0 never lends to itself); that of day 1 borrows 6 from 0,
         // and with these 1 lends to 0's lot of day 2.
-        line(x, 0, 3, 2, 0, 0, 1, 6);
-        line(x, 1, 3, 2, 0, 1, 0, 6);
+        due.line(x, 0, 3, 2, 0, 0, 1, 6);
+        due.line(x, 1, 3, 2, 0, 1, 0, 6);
         due.is("two loans", x.look(10), 2);
-        lots(x, 0, 0, 0, 10, 2, 4, 3, 6);
-        lots(x, 1, 0, 1, 4, 3, 6);
+        due.lots(x, 0, 0, 0, 10, 2, 4, 3, 6);
+        due.lots(x, 1, 0, 1, 4, 3, 6);
         due.is("lent by 0", x.at(0, 0, 5), 6);
         due.is("lent by 1", x.at(1, 0, 5), 6);
         due.is("stock of 0", x.at(0, 0, 1), 6);
@@ -483,7 +465,7 @@ public final class NightTest {
         x.night(1);
         due.is("all", x.deal(0, 7), 0);
         due.is("shares stay told", x.deal(0, 3), 10);
-        line(x, 0, 3, 3, 0, 1, 0, 10);
+        due.line(x, 0, 3, 3, 0, 1, 0, 10);
         due.is("cash by the trade's price", x.cash(0), -700);
         due.is("cash by the trade's price", x.cash(1), 700);
         due.is("stock", x.at(0, 0, 1), 10);
@@ -653,10 +635,10 @@ public final class NightTest {
         x.tell(0, 2, 0, 10);
         x.night(1);
         // Issue by issue, each from (a) to (g).
-        line(x, 0, 0, 0, 2, 0, -1, 10);
-        line(x, 1, 0, 1, 2, -1, 1, 10);
-        line(x, 2, 0, 0, 5, 1, -1, 10);
-        line(x, 3, 0, 1, 5, -1, 0, 10);
+        due.line(x, 0, 0, 0, 2, 0, -1, 10);
+        due.line(x, 1, 0, 1, 2, -1, 1, 10);
+        due.line(x, 2, 0, 0, 5, 1, -1, 10);
+        due.line(x, 3, 0, 1, 5, -1, 0, 10);
     }
 
     private static void bookIsFull() {
@@ -711,7 +693,7 @@ public final class NightTest {
         x.apart(3, 4, 5, 6, 7);
         x.tell(4, 5, 0, 6);
         x.night(2);
-        line(x, 0, 0, 3, 5, 4, 3, 6);
+        due.line(x, 0, 0, 3, 5, 4, 3, 6);
         due.is("book(0, 6)", x.book(0, 6), -1);
         due.is("book(0, -1)", x.book(0, -1), -1);
         due.is("book(1, 0)", x.book(1, 0), -1);

@@ -40,26 +40,13 @@ public final class NoticeTest {
         return x;
     }
 
-    private static void notice(RollingNets x, int i, int... want) {
-        for (int k = 0; k < want.length; k++) {
-            int what = k < 7 ? k : k + 3;
-            due.is("notice(" + i + ", " + what + ")", x.notice(i, what), want[k]);
-        }
-    }
-
-    private static void line(RollingNets x, int i, int... want) {
-        for (int what = 0; what < want.length; what++) {
-            due.is("book(" + i + ", " + what + ")", x.book(i, what), want[what]);
-        }
-    }
-
     private static void give() {
         RollingNets x = noLag();
         x.set(4, 3);
         x.trade(0, 1, 4, 10, 100);
         x.night(1);
         due.is("give", x.give(0, 4, 7), 0);
-        notice(x, 0, 0, 4, 7, 4, 1, -1, 0, 0, 7, 0, 0, 0, 0);
+        due.notice(x, 0, 0, 4, 7, 4, 1, -1, 0, 0, 7, 0, 0, 0, 0);
         due.is("notice(0, 7)", x.notice(0, 7), -1);
         due.is("notice(0, 9)", x.notice(0, 9), -1);
         due.is("notice(0, -1)", x.notice(0, -1), -1);
@@ -150,18 +137,18 @@ public final class NoticeTest {
         x.night(1);
         x.image(true);
         due.is("give 3", x.give(0, 0, 3), 0);
-        notice(x, 0, 0, 0, 3, 4, 1, -1, 0, 0, 0, 0, 0, 3, 0);
+        due.notice(x, 0, 0, 0, 3, 4, 1, -1, 0, 0, 0, 0, 0, 3, 0);
         x.image(false);
         due.is("give 12", x.give(0, 0, 12), 0);
-        notice(x, 0, 0, 0, 12, 4, 1, -1, 0, 0, 0, 6, 3, 3, 0);
+        due.notice(x, 0, 0, 0, 12, 4, 1, -1, 0, 0, 0, 6, 3, 3, 0);
         x.image(false);
         due.is("give 114", x.give(0, 0, 114), 0);
-        notice(x, 0, 0, 0, 114, 4, 1, -1, 0, 0, 0, 6, 5, 103, 0);
+        due.notice(x, 0, 0, 0, 114, 4, 1, -1, 0, 0, 0, 6, 5, 103, 0);
         x.image(false);
         due.is("more is too young", x.give(0, 0, 115), -1);
         x.night(1);
         due.is("give all", x.give(0, 0, 164), 0);
-        notice(x, 0, 0, 0, 164, 5, 1, -1, 0, 0, 50, 6, 5, 103, 0);
+        due.notice(x, 0, 0, 0, 164, 5, 1, -1, 0, 0, 50, 6, 5, 103, 0);
     }
 
     /** Not more than is SHORT and not ASSIGNED yet; fewer, if there are no more; none: it can't be given. */
@@ -172,9 +159,9 @@ public final class NoticeTest {
         x.trade(2, 3, 0, 20, 100);
         x.night(1);
         due.is("give", x.give(0, 0, 10), 0);
-        notice(x, 0, 0, 0, 10, 6, 1, -1, 0, 0, 10, 0, 0, 0, 0);
+        due.notice(x, 0, 0, 0, 10, 6, 1, -1, 0, 0, 10, 0, 0, 0, 0);
         due.is("give", x.give(2, 0, 20), 1);
-        notice(x, 1, 2, 0, 20, 6, 1, -1, 0, 0, 0, 0, 20, 0, 0);
+        due.notice(x, 1, 2, 0, 20, 6, 1, -1, 0, 0, 0, 0, 20, 0, 0);
 
         RollingNets y = noLag();
         y.set(4, 5);
@@ -196,7 +183,7 @@ public final class NoticeTest {
         y.night(1);
         // 1 is short 30 again, 23 of it assigned: 7 are left of its lot of day 0, then 3 has ten of day 1.
         due.is("give", y.give(5, 0, 9), 3);
-        notice(y, 3, 5, 0, 9, 9, 1, -1, 0, 0, 7, 0, 2, 0, 0);
+        due.notice(y, 3, 5, 0, 9, 9, 1, -1, 0, 0, 7, 0, 2, 0, 0);
     }
 
     private static void assignedOnTop() {
@@ -207,10 +194,10 @@ public final class NoticeTest {
         x.trade(2, 3, 0, 6, 100);
         x.night(1);
         due.is("give", x.give(0, 0, 28), 0);
-        notice(x, 0, 0, 0, 28, 6, 1, -1, 0, 0, 28, 0, 0, 0, 0);
+        due.notice(x, 0, 0, 0, 28, 6, 1, -1, 0, 0, 28, 0, 0, 0, 0);
         // 1 has two left, 3 its six: 2 asks for six and gets two and four.
         due.is("give", x.give(2, 0, 6), 1);
-        notice(x, 1, 2, 0, 6, 6, 1, -1, 0, 0, 2, 0, 4, 0, 0);
+        due.notice(x, 1, 2, 0, 6, 6, 1, -1, 0, 0, 2, 0, 4, 0, 0);
         // 4 buys five of 5, and 5 five of 1: 1 owes five more.
         x.trade(4, 5, 0, 5, 100);
         x.night(1);
@@ -223,7 +210,7 @@ public final class NoticeTest {
         due.is("1 is short", x.at(1, 0, 0), -5);
         // 30 of 1 are assigned, it is short 5; 3 has 6, 4 of them assigned: two are left.
         due.is("give 5", x.give(4, 0, 5), 2);
-        notice(x, 2, 4, 0, 2, 9, 1, -1, 0, 0, 0, 0, 2, 0, 0);
+        due.notice(x, 2, 4, 0, 2, 9, 1, -1, 0, 0, 0, 0, 2, 0, 0);
         x.trade(0, 2, 0, 6, 100);
         x.night(1);
         due.is("0 has one open yet", x.give(0, 0, 1), -1);
@@ -242,10 +229,10 @@ public final class NoticeTest {
         due.is("1 is short", x.at(1, 0, 0), -10);
         due.is("all that it owes is assigned", x.give(2, 0, 5), -1);
         due.is("look(8)", x.look(8), 1);
-        notice(x, 0, 0, 0, 10, 6, 1, -1, 0, 0, 10, 0, 0, 0, 0);
+        due.notice(x, 0, 0, 0, 10, 6, 1, -1, 0, 0, 10, 0, 0, 0, 0);
         x.night(5);
         // 0 has nothing to get: nothing is bought in, and what is assigned stays told.
-        notice(x, 0, 0, 0, 10, 6, 0, -1, 0, 0, 10, 0, 0, 0, 0);
+        due.notice(x, 0, 0, 0, 10, 6, 0, -1, 0, 0, 10, 0, 0, 0, 0);
         due.is("outside", x.look(11), 0);
         due.is("now it can be given", x.give(2, 0, 5), 1);
     }
@@ -264,12 +251,12 @@ public final class NoticeTest {
         due.is("give", x.give(0, 1, 9), 2);
         x.tell(1, 0, 0, 7);
         x.night(1);
-        notice(x, 0, 0, 0, 4, 6, 1, -1, 0, 0, 0, 0, 0, 0, 0);
-        notice(x, 1, 2, 0, 6, 6, 1, -1, 0, 0, 3, 0, 0, 0, 0);
-        notice(x, 2, 0, 1, 9, 6, 1, -1, 0, 0, 9, 0, 0, 0, 0);
+        due.notice(x, 0, 0, 0, 4, 6, 1, -1, 0, 0, 0, 0, 0, 0, 0);
+        due.notice(x, 1, 2, 0, 6, 6, 1, -1, 0, 0, 3, 0, 0, 0, 0);
+        due.notice(x, 2, 0, 1, 9, 6, 1, -1, 0, 0, 9, 0, 0, 0, 0);
         // What is left of it: of 23 that 1 owes 3 are assigned, 20 are free to be.
         due.is("give", x.give(3, 0, 10), 3);
-        notice(x, 3, 3, 0, 10, 7, 1, -1, 0, 0, 10, 0, 0, 0, 0);
+        due.notice(x, 3, 3, 0, 10, 7, 1, -1, 0, 0, 10, 0, 0, 0, 0);
         x.tell(1, 0, 0, 5);
         x.night(1);
         due.is("by number", x.notice(1, 11), 0);
@@ -292,12 +279,12 @@ public final class NoticeTest {
         x.price(2, 100);
         x.night(1);
         due.is("give", x.give(0, 2, 25), 0);
-        notice(x, 0, 0, 2, 25, 2, 1, -1, 0, 0, 10, 0, 15, 0, 0);
+        due.notice(x, 0, 0, 2, 25, 2, 1, -1, 0, 0, 10, 0, 15, 0, 0);
         x.night(1);
         due.is("not due", x.notice(0, 4), 1);
         x.price(2, 120);
         x.night(1);
-        notice(x, 0, 0, 2, 25, 2, 0, -1, 25, 0, 10, 0, 15, 0, 0);
+        due.notice(x, 0, 0, 2, 25, 2, 0, -1, 25, 0, 10, 0, 15, 0, 0);
         due.is("stock", x.at(0, 2, 1), 25);
         due.is("long", x.at(0, 2, 0), 5);
         due.is("short", x.at(1, 2, 0), 0);
@@ -308,8 +295,8 @@ public final class NoticeTest {
         due.is("cash of 3", x.cash(3), 1500 - 15 * 150 - 100);
         due.is("outside", x.look(11), 25 * 150);
         due.is("all cash", x.look(12), -25 * 150);
-        line(x, 0, 2, 4, 2, 1, 0, 10);
-        line(x, 1, 2, 4, 2, 3, 0, 15);
+        due.line(x, 0, 2, 4, 2, 1, 0, 10);
+        due.line(x, 1, 2, 4, 2, 3, 0, 15);
         due.is("two lines", x.look(10), 2);
         due.is("look(9)", x.look(9), 0);
         due.is("look(8)", x.look(8), 1);
@@ -335,11 +322,11 @@ public final class NoticeTest {
         due.is("2 is short", x.at(2, 0, 0), -3);
         due.is("5 is long", x.at(5, 0, 0), 5);
         x.night(1);
-        notice(x, 0, 0, 0, 40, 2, 0, -1, 24, 0, 6, 10, 10, 10, 0);
-        line(x, 2, 2, 4, 0, 1, 0, 6);
-        line(x, 3, 2, 4, 0, 2, 0, 3);
-        line(x, 4, 2, 4, 0, 3, 0, 10);
-        line(x, 5, 2, 4, 0, 4, 0, 5);
+        due.notice(x, 0, 0, 0, 40, 2, 0, -1, 24, 0, 6, 10, 10, 10, 0);
+        due.line(x, 2, 2, 4, 0, 1, 0, 6);
+        due.line(x, 3, 2, 4, 0, 2, 0, 3);
+        due.line(x, 4, 2, 4, 0, 3, 0, 10);
+        due.line(x, 5, 2, 4, 0, 4, 0, 5);
         due.is("six lines", x.look(10), 6);
         due.is("4 is short yet", x.at(4, 0, 0), -5);
         due.is("0 has nothing to get", x.at(0, 0, 6), 0);
@@ -439,9 +426,9 @@ public final class NoticeTest {
         x.trade(4, 1, 0, 10, 100);
         x.night(1);
         due.is("give", x.give(5, 0, 8), 0);
-        notice(x, 0, 5, 0, 8, 2, 1, -1, 0, 8, 0, 0, 0, 0, 0);
+        due.notice(x, 0, 5, 0, 8, 2, 1, -1, 0, 8, 0, 0, 0, 0, 0);
         due.is("give", x.give(4, 0, 10), 1);
-        notice(x, 1, 4, 0, 10, 2, 1, -1, 0, 2, 8, 0, 0, 0, 0);
+        due.notice(x, 1, 4, 0, 10, 2, 1, -1, 0, 2, 8, 0, 0, 0, 0);
         x.tell(0, 0, 0, 9);
         x.night(1);
         due.is("delivered", x.notice(0, 10), 0);
@@ -478,12 +465,12 @@ public final class NoticeTest {
         due.is("due a day ago", x.call(0), -1);
         x.night(1);
         due.is("due two days ago", x.call(0), 0);
-        notice(x, 0, 4, 3, 50, 6, 1, 0, 0, 0, 0, 0, 0, 0, 0);
+        due.notice(x, 0, 4, 3, 50, 6, 1, 0, 0, 0, 0, 0, 0, 0, 0);
         due.is("one is open", x.call(0), -1);
         due.is("look(9)", x.look(9), 1);
         due.is("nothing moved", x.look(10), 0);
         x.night(4);
-        notice(x, 0, 4, 3, 50, 6, 0, 0, 50, 0, 0, 0, 0, 0, 0);
+        due.notice(x, 0, 4, 3, 50, 6, 0, 0, 50, 0, 0, 0, 0, 0, 0);
         due.is("done", x.call(0), -1);
     }
 
@@ -518,7 +505,7 @@ public final class NoticeTest {
         due.is("outside", x.look(11), 720);
         due.is("open", x.deal(0, 7), 0);
         due.is("shares", x.deal(0, 3), 10);
-        line(x, 0, 1, 4, 0, 1, 0, 10);
+        due.line(x, 0, 1, 4, 0, 1, 0, 10);
         due.is("bought in", x.notice(0, 6), 10);
         due.is("closed", x.notice(0, 4), 0);
     }
@@ -566,7 +553,7 @@ public final class NoticeTest {
         for (int k = 0; k < 5; k++) {
             due.is("cash of " + k, x.cash(k), cash[k]);
         }
-        line(x, 0, 1, 4, 0, 3, 0, 10);
+        due.line(x, 0, 1, 4, 0, 3, 0, 10);
         due.is("stock of the first buyer", x.at(0, 0, 1), 10);
         due.is("stock of none between", x.at(1, 0, 1), 0);
         due.is("one line", x.look(10), 1);
@@ -663,8 +650,8 @@ public final class NoticeTest {
         due.is("call", x.call(0), 1);
         due.is("call", x.call(3), 2);
         x.night(2);
-        line(x, 0, 2, 4, 0, 3, 1, 10);
-        line(x, 1, 2, 4, 0, 4, 0, 10);
+        due.line(x, 0, 2, 4, 0, 3, 1, 10);
+        due.line(x, 1, 2, 4, 0, 4, 0, 10);
         due.is("two lines", x.look(10), 2);
         due.is("open", x.deal(2, 7), 5);
         due.is("open", x.deal(3, 7), 0);

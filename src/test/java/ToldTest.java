@@ -29,19 +29,33 @@ public final class ToldTest {
         for (int what = 0; what < first.length; what++) {
             due.is("new: look(" + what + ")", x.look(what), first[what]);
         }
-        int[] nobody = {0, 0, 0, 0, 0, 0, 0, -1, 0, 0};
         for (int member = 0; member < 6; member++) {
-            due.is("new: cash", x.cash(member), 0);
-            due.is("new: margin", x.margin(member, 0), 0);
-            due.is("new: collateral", x.margin(member, 1), 0);
-            for (int issue = 0; issue < 6; issue++) {
-                for (int what = 0; what < nobody.length; what++) {
-                    due.is("new: at(.., " + what + ")", x.at(member, issue, what), nobody[what]);
-                }
-                due.is("new: lot", x.lot(member, issue, 0, 0), -1);
-                due.is("new: ahead", x.ahead(member, issue), -1);
-            }
+            newMember(new RollingNets(), member);
         }
+        newIssues(new RollingNets());
+        due.is("new: deal", x.deal(0, 0), -1);
+        due.is("new: notice", x.notice(0, 0), -1);
+        due.is("new: book", x.book(0, 0), -1);
+        due.is("new: fault(0)", x.fault(0), 0);
+        due.is("new: fault(1)", x.fault(1), -1);
+        due.is("new: image(false)", x.image(false), false);
+    }
+
+    private static void newMember(RollingNets x, int member) {
+        int[] nobody = {0, 0, 0, 0, 0, 0, 0, -1, 0, 0};
+        due.is("new: cash", x.cash(member), 0);
+        due.is("new: margin", x.margin(member, 0), 0);
+        due.is("new: collateral", x.margin(member, 1), 0);
+        for (int issue = 0; issue < 6; issue++) {
+            for (int what = 0; what < nobody.length; what++) {
+                due.is("new: at(.., " + what + ")", x.at(member, issue, what), nobody[what]);
+            }
+            due.is("new: lot", x.lot(member, issue, 0, 0), -1);
+            due.is("new: ahead", x.ahead(member, issue), -1);
+        }
+    }
+
+    private static void newIssues(RollingNets x) {
         int[] fresh = {100, 100, 0, 0, 0, -1, 0, 0, 0};
         for (int issue = 0; issue < 6; issue++) {
             for (int what = 0; what < fresh.length; what++) {
@@ -50,12 +64,6 @@ public final class ToldTest {
             due.is("new: queue", x.queue(issue, -1, 0), 0);
             due.is("new: queue, another what", x.queue(issue, -1, 3), 0);
         }
-        due.is("new: deal", x.deal(0, 0), -1);
-        due.is("new: notice", x.notice(0, 0), -1);
-        due.is("new: book", x.book(0, 0), -1);
-        due.is("new: fault(0)", x.fault(0), 0);
-        due.is("new: fault(1)", x.fault(1), -1);
-        due.is("new: image(false)", x.image(false), false);
     }
 
     private static void setBounds() {

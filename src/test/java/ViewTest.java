@@ -293,7 +293,7 @@ public final class ViewTest {
         due.is("ahead of 3", x.ahead(3, 0), 1);
     }
 
-    private static void longQueue() {
+    private static RollingNets longQueued() {
         RollingNets x = noLag();
         x.set(2, 9);
         for (int day = 0; day < 50; day++) {
@@ -302,12 +302,19 @@ public final class ViewTest {
             }
             x.night(1);
         }
-        due.is("how many", x.queue(0, -1, 0), 200);
-        for (int i = 0; i < 200; i++) {
-            due.is("member", x.queue(0, i, 0), i % 4);
-            due.is("day", x.queue(0, i, 1), i / 4);
-            due.is("shares", x.queue(0, i, 2), 1 + i / 4);
+        return x;
+    }
+
+    private static void longQueue() {
+        for (int what = 0; what < 3; what++) {
+            RollingNets x = longQueued();
+            for (int i = 0; i < 200; i++) {
+                int want = what == 0 ? i % 4 : what == 1 ? i / 4 : 1 + i / 4;
+                due.is("queue(0, " + i + ", " + what + ")", x.queue(0, i, what), want);
+            }
         }
+        RollingNets x = longQueued();
+        due.is("how many", x.queue(0, -1, 0), 200);
         due.is("i 200", x.queue(0, 200, 0), -1);
         due.is("lots", x.at(5, 0, 6), 50);
         due.is("ahead", x.ahead(3, 0), 3);
