@@ -11,6 +11,7 @@ public final class ImageTest {
         goesOn();
         imageOfBefore();
         ranksAreBack();
+        noticesAnew();
         due.end();
     }
 
@@ -160,6 +161,22 @@ public final class ImageTest {
         due.is("0 goes first", x.queue(0, 0, 0), 0);
         x.image(false);
         due.is("1 goes first", x.queue(0, 0, 0), 1);
+    }
+
+    /** A number that a notice had before is another one's behind the image: nothing of the first is in it. */
+    private static void noticesAnew() {
+        RollingNets x = Make.quick();
+        x.trade(0, 1, 0, 10, 100);
+        x.apart(0, 1, 0, 4, 100);
+        x.night(1);
+        x.image(true);
+        due.is("in net", x.give(0, 0, 10), 0);
+        x.night(1);
+        due.notice(x, 0, 0, 0, 10, 1, 0, -1, 10, 0, 10, 0, 0, 0, 0);
+        x.image(false);
+        due.is("none", x.notice(0, 11), -1);
+        due.is("apart", x.call(1), 0);
+        due.notice(x, 0, 0, 0, 4, 1, 1, 1, 0, 0, 0, 0, 0, 0, 0);
     }
 
     /** Taken before there was a trade: members can be told again. */

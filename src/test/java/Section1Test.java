@@ -8,6 +8,7 @@ public final class Section1Test {
     public static void main(String[] args) {
         membersAtFirst();
         membersTold();
+        askedOfTwelve();
         membersWhileThereIsNoTrade();
         toldStays();
         notThereIsNotTold();
@@ -74,6 +75,42 @@ public final class Section1Test {
             due.is("set(0, " + v + ")", x.set(0, v), false);
             due.is("look(0)", x.look(0), 6);
         }
+    }
+
+    /** With all twelve there, what is asked of all of them has the last one, too, and ends with it. */
+    private static void askedOfTwelve() {
+        RollingNets x = Make.noLag();
+        x.set(0, 12);
+        for (int k = 0; k < 6; k++) {
+            x.trade(k, k + 6, 0, 10 + k, 100);
+        }
+        x.tell(0, 0, 0, 3);
+        x.tell(11, 0, 0, 4);
+        x.tell(11, 0, 1, 4);
+        x.night(1);
+        due.is("all long", x.issue(0, 2), 75);
+        due.is("all short", x.issue(0, 3), 75);
+        due.is("all stock", x.issue(0, 4), 7);
+        due.is("the eldest lot", x.issue(0, 5), 0);
+        due.is("no lot", x.issue(1, 5), -1);
+        due.is("short of a day", x.aged(0, 1), 75);
+        due.is("short of two days", x.aged(0, 2), 0);
+        due.is("who have short lots", x.look(18), 4032);
+        due.is("who lack", x.look(16), 12);
+        due.is("demand of the last long one", x.margin(5, 0), 150);
+        due.is("demand of the last one", x.margin(11, 0), 225);
+        due.is("none is below 0", x.stress(0), 0);
+        due.is("the short ones", x.stress(1), 4032);
+        due.is("the long ones", x.stress(-1), 63);
+        x.collateral(11, 225);
+        due.is("who lack but the last one", x.look(16), 11);
+        due.is("the short ones but the last one", x.stress(1), 1984);
+        x.suspend(11, true);
+        due.is("suspended", x.look(17), 2048);
+        due.is("long lots", x.queue(0, -1, 0), 6);
+        due.is("the last of them", x.queue(0, 5, 2), 15);
+        due.is("ahead of it", x.ahead(5, 0), 60);
+        due.is("ahead of none", x.ahead(11, 0), -1);
     }
 
     // "... while there is no TRADE; ..."

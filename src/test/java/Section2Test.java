@@ -25,6 +25,7 @@ public final class Section2Test {
         lendsMost();
         lenderIsNotShort();
         lenderIsAnother();
+        lenderIsThere();
         lentTillItHasAll();
         lentToInOrder();
         apartAllOrNone();
@@ -459,6 +460,34 @@ public final class Section2Test {
         x.night(1);
         due.is("of another less", x.look(10), 1);
         due.line(x, 0, 3, 2, 0, 2, 0, 1);
+    }
+
+    /** What a MEMBER was told to lend stays when it is not there any more; a lender it is not, then. */
+    private static void lenderIsThere() {
+        for (int m = 3; m <= 12; m++) {
+            RollingNets x = Make.noLag();
+            x.set(0, 12);
+            x.set(2, 1);
+            for (int k = 2; k < 12; k++) {
+                x.tell(k, 0, 0, k);
+                x.tell(k, 0, 2, k);
+            }
+            x.set(0, m);
+            x.trade(0, 1, 0, 1, 100);
+            x.night(2);
+            due.is("one line", x.look(10), 1);
+            due.line(x, 0, 1, 2, 0, m - 1, 0, 1);
+            due.is("cash of the last one there", x.cash(m - 1), 100);
+        }
+        RollingNets x = Make.noLag();
+        x.set(2, 1);
+        x.tell(5, 0, 0, 9);
+        x.tell(5, 0, 2, 9);
+        x.set(0, 5);
+        x.trade(0, 1, 0, 9, 100);
+        x.night(3);
+        due.is("none there lends", x.look(10), 0);
+        due.is("waits yet", x.at(0, 0, 0), 9);
     }
 
     // (d) "for each, as long as it has SHARES"

@@ -13,6 +13,7 @@ public final class Section3Test {
         noneOpenInNet();
         assignedLotByLot();
         assignedInOrder();
+        assignedAmongTwelve();
         assignedToEachAtMost();
         fewerOrNone();
         deliveredTakesOff();
@@ -180,6 +181,28 @@ public final class Section3Test {
             due.is("give", y.give(0, 0, 6), 0);
             due.is("of one day: the least", y.notice(0, 10 + Math.min(one[0], one[1])), 5);
             due.is("then the other", y.notice(0, 10 + Math.max(one[0], one[1])), 1);
+        }
+    }
+
+    /** Each NOTICE anew: what one before it has ASSIGNED in another ISSUE is not in it. */
+    private static void assignedAmongTwelve() {
+        for (int one = 2; one < 12; one++) {
+            RollingNets x = Make.quick();
+            x.set(0, 12);
+            int other = one == 11 ? 2 : one + 1;
+            x.trade(0, one, 0, 5, 100);
+            x.trade(1, other, 1, 9, 100);
+            x.trade(1, one, 2, 7, 100);
+            x.night(1);
+            due.is("give", x.give(0, 0, 5), 0);
+            due.is("give in another issue", x.give(1, 1, 9), 1);
+            due.is("give in a third", x.give(1, 2, 7), 2);
+            for (int k = 0; k < 12; k++) {
+                due.is("the first to " + k, x.notice(0, 10 + k), k == one ? 5 : 0);
+                due.is("the second to " + k, x.notice(1, 10 + k), k == other ? 9 : 0);
+                due.is("the third to " + k, x.notice(2, 10 + k), k == one ? 7 : 0);
+            }
+            due.is("shares", x.notice(2, 2), 7);
         }
     }
 
